@@ -45,6 +45,14 @@ final class Due {
         is(what, of(call), "throws.IllegalStateException");
     }
 
+    static int checked() {
+        return checked;
+    }
+
+    static int wrong() {
+        return wrong;
+    }
+
     static void end() {
         System.out.println(checked + " answers checked, " + wrong + " not as due");
         if (wrong != 0) {
